@@ -727,7 +727,6 @@ public final class RedMarks {
     private void forgetBook(int book) {
         histories.forgetBook(book);
         matches.forgetAll();
-        stackRow.forgetAll();
     }
 
     /** MATCHES are dear: only what they look at makes them anew. */

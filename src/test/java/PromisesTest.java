@@ -48,6 +48,7 @@ public final class PromisesTest {
     imagesKeep();
     imagesLeave();
     statuses();
+    refusals();
     due.finish();
   }
 
@@ -203,6 +204,7 @@ public final class PromisesTest {
     due.is("feed 21", x.feed(0, 0, 0, 0, 0), -1);
     due.is("count(6)", x.count(6), 400);
     due.is("end(401)", x.end(401), -1);
+    due.is("end(400)", x.end(400), 400);
     due.is("end(-1)", x.end(-1), -1);
     due.is("end(BIG)", x.end(BIG), -1);
     due.is("end(381)", x.end(381), 381);
@@ -274,6 +276,12 @@ public final class PromisesTest {
     due.is("count(2)", x.count(2), 8);
     due.is("count(10)", x.count(10), 2);
     due.is("count(11)", x.count(11), 1);
+    x.book(0, 1, 0, 1, 1);
+    due.is("text 8 is none", x.seat(8, 0, 0), -1);
+    due.is("text 8 does not stand", x.stand(8, 0, 0), -1);
+    due.is("text 8 can't be kept", x.keep(0, 8, 0), -2);
+    due.is("text 8 tells nothing", x.ours(8, 0, -1), -1);
+    due.is("text 8 is not false", x.untrue(8, 0, 0), -1);
   }
 
   private static void fault(String text, int place) {
@@ -296,6 +304,16 @@ public final class PromisesTest {
     fault("bay 1 2", 6);
     fault("bays 1", 0);
     fault("Bay 1", 0);
+    fault("cay 1", 0);
+    fault("bax 1", 0);
+    fault("bayz 1", 0);
+    fault("zbay 1", 0);
+    fault("abay 1", 0);
+    fault("bay`1", 3);
+    fault("bay{1", 3);
+    fault("bay 9:", 5);
+    fault("bay 0", -1);
+    fault("bay 9", -1);
     fault("\tbay 1", 0);
     fault("bay\t1", 3);
     fault("bay -1", 4);
@@ -425,6 +443,10 @@ public final class PromisesTest {
     tell("ours 5 if not 2>2", 5);
     tell("ours 5 if not not 2>2", 0);
     tell("ours 5 if not 2>2 and 1=1", 5);
+    tell("ours 5 if not 1=1 and 1=1", 0);
+    tell("ours 5 if not (not 1=1)", 5);
+    tell("ours 5 if not (not 1=2)", 0);
+    tell("ours 5 if not 1=1 or not 1=1", 0);
     tell("ours 5 if not (2>2 or 1=1)", 0);
     tell("ours 5 if 1=1 or 1=1 and 1=2", 5);
     tell("ours 5 if (1=1 or 1=1) and 1=2", 0);
@@ -520,6 +542,18 @@ public final class PromisesTest {
     due.is("bay then", x.seat(by, 0, 0), 3);
     x.mark(0, -1, -1);
     due.is("bay without", x.seat(by, 0, 0), -1);
+    x = new RedMarks();
+    x.book(0, 1, 0, 1, 1);
+    x.book(0, 1, 0, 1, 1);
+    for (int n = 0; n < 8; n++) {
+      Due.text(x, "bay damp;place " + (n + 1));
+      due.is("bay of text " + n, x.seat(n, 1, 0), 0);
+    }
+    x.fact(1, 8, 6);
+    for (int n = 0; n < 8; n++) {
+      due.is("bay by damp of text " + n, x.seat(n, 1, 0), 6);
+      due.is("place by text " + n, x.seat(n, 1, 2), n + 1);
+    }
   }
 
   private static void rightSeats() {
@@ -598,6 +632,29 @@ public final class PromisesTest {
     for (int what = 0; what <= 4; what++) {
       due.is("best(" + what + ")", x.best(what), want[what]);
     }
+    x.fact(0, 2, 0);
+    x.fact(1, 2, 0);
+    // one behind the others alone: from the year behind theirs to its own
+    x.fact(2, 2, 150);
+    due.is("year", x.best(3), 1);
+    due.is("as good", x.best(4), 2 * 150);
+    x.fact(2, 4, 40);
+    x.shelf(1, 0, 100, 39);
+    due.is("year, the second not right", x.best(3), 1);
+    due.is("first, the second not right", x.best(1), 2);
+    due.is("as good, the second not right", x.best(4), 150);
+    x.mark(1, -1, -1);
+    x.mark(2, -1, -1);
+    due.is("one alone", x.best(0), 1);
+    // by 1 or 2 for the first from year 1 on with any second, or for the second in year 0
+    due.is("as good, one alone", x.best(4), 2 * 3 * 200 + 2 * 3);
+    due.is("its year", x.best(3), 0);
+    x.mark(1, 0, 1);
+    x.mark(2, 0, 1);
+    x.fact(0, 2, 10);
+    x.fact(1, 2, 20);
+    x.fact(2, 4, 1);
+    x.shelf(1, 0, 100, 40);
     due.is("best(5)", x.best(5), -1);
     due.is("best(-1)", x.best(-1), -1);
     x.fact(2, 2, 199);
@@ -702,6 +759,11 @@ public final class PromisesTest {
     due.is("free below 0", x.free(1, 0), -1);
     x.fact(6, 3, 2);
     due.is("free then", x.free(1, 0), 27);
+    x.bay(1, 1);
+    x.fact(6, 5, 2);
+    due.is("hole on the other side", x.how(6), 2);
+    x.bay(1, 2);
+    due.is("hole on its side", x.how(6), 4);
     due.is("refused", x.keep(0, 0, 300), -1);
     due.is("kept still", x.how(6), 4);
     due.is("keep another", x.keep(0, 0, 0), 4);
@@ -740,6 +802,14 @@ public final class PromisesTest {
     due.is("what 2", x.gap(0, 0, 0, 2), -1);
     due.is("what -1", x.gap(0, 0, 0, -1), -1);
     due.is("what 2 of NONE", x.gap(0, 0, -1, 2), -1);
+    Due.text(x, "bay 1;shelf 2;place number");
+    x.keep(1, 1, 0);
+    due.is("gaps of shelf 2", x.gap(1, 2, -1, 0), 3);
+    due.is("places of shelf 2", x.gap(1, 2, -1, 1), 93);
+    due.is("last of shelf 2", x.gap(1, 2, 2, 0), 8);
+    due.is("gaps of shelf 0", x.gap(1, 0, -1, 0), 0);
+    due.is("last of bay 0", x.gap(0, 4, 0, 0), -1);
+    x.keep(0, 0, 0);
     due.is("no gaps", x.gap(1, 0, -1, 0), 0);
     due.is("no places", x.gap(1, 0, -1, 1), 0);
     due.is("no gap 0", x.gap(1, 0, 0, 0), -1);
@@ -777,6 +847,7 @@ public final class PromisesTest {
     due.is("with the thickest", x.could(0, 0, 400, 4), 1);
     due.is("with it exactly", x.could(0, 0, 0, 1), 2);
     due.is("not missing", x.could(0, 0, 400, 0), 0);
+    due.is("not missing, with room for it", x.could(3, 3, 400, 0), 0);
     due.is("no line", x.could(0, 0, 400, 5), -1);
     due.is("line -2", x.could(0, 0, 400, -2), -1);
     due.is("slack 401", x.could(0, 0, 401, -1), -1);
@@ -879,9 +950,12 @@ public final class PromisesTest {
     due.is("none", x.wanting(0, 0, 0), 0);
     due.is("none has it", x.wanting(0, 2, 0), 0);
     due.is("no first", x.wanting(0, 1, 0), -1);
+    x.book(8, 5, 0, 1, 1);
+    due.is("of the first", x.wanting(8, 0, 0), 4);
+    due.is("one has it", x.wanting(8, 2, 0), 1);
     x.book(8, 3, 0, 1, 1);
     x.book(8, 5, 0, 1, 1);
-    x.book(8, 5, 0, 1, 1);
+    due.is("none has another", x.wanting(7, 2, 0), 0);
     x.book(7, 99, 0, 1, 1);
     x.book(6, 1, 0, 1, 1);
     x.book(-1, -1, 0, 1, 1);
@@ -1036,6 +1110,11 @@ public final class PromisesTest {
     // 5 4 4 5 3
     due.is("three pairs", x.close(0, 0), 3);
     due.is("all", x.close(-1, -1), 4);
+    Due.text(x, "bay 8;shelf 5;place number");
+    x.keep(1, 1, 0);
+    due.is("shelf 5", x.close(8, 5), 2);
+    due.is("all there", x.close(-1, -1), 2);
+    due.is("not there", x.close(7, 1), 0);
     due.is("half", x.close(-1, 0), -1);
     due.is("other half", x.close(0, -1), -1);
     due.is("bay 9", x.close(9, 0), -1);
@@ -1233,6 +1312,10 @@ public final class PromisesTest {
     Due.text(x, "ours 0-came");
     Due.text(x, "ours 20 if came=5");
     Due.text(x, "ours 1000+came");
+    Due.text(x, "ours 1000+1-came/5");
+    due.is("a thousand", x.ours(4, 0, -1), 1000);
+    due.is("one more", x.ours(4, 2, -1), 1000);
+    due.is("less", x.ours(4, 1, -1), 981);
     due.is("own", x.ours(0, 0, -1), 50);
     due.is("1000", x.ours(0, 1, -1), 1000);
     due.is("above", x.ours(3, 0, -1), 1000);
@@ -1245,7 +1328,7 @@ public final class PromisesTest {
     due.is("nothing", x.ours(0, 2, 0), 0);
     due.is("0 by 0", x.ours(1, 0, 1), 0);
     due.is("cut", x.ours(0, 3, 0), 28);
-    due.is("no text", x.ours(4, 0, -1), -1);
+    due.is("no text", x.ours(5, 0, -1), -1);
     due.is("text -1", x.ours(-1, 0, -1), -1);
     due.is("no book", x.ours(0, 4, -1), -1);
     due.is("book -1", x.ours(0, -1, -1), -1);
@@ -1280,18 +1363,20 @@ public final class PromisesTest {
   private static void twins() {
     due.part("37 twice");
     RedMarks x = new RedMarks();
-    int[] letters = {1, 2, 1, -1, 1, -1, 2, 1};
-    int[] numbers = {5, 5, 5, -1, 5, -1, 5, 6};
+    int[] letters = {1, 2, 1, -1, -1, 2, 1, 1};
+    int[] numbers = {5, 5, 5, -1, -1, 5, 5, 6};
     for (int n = 0; n < 8; n++) {
       x.book(letters[n], numbers[n], 0, 1, 1);
     }
-    due.is("how many", x.twice(0, 5), 4);
-    int[][] pairs = {{0, 2}, {0, 4}, {1, 6}, {2, 4}};
-    for (int i = 0; i < 4; i++) {
+    x.book(1, 6, 0, 1, 1);
+    due.is("how many", x.twice(0, 6), 5);
+    due.is("how many, i 0", x.twice(0, 0), 5);
+    int[][] pairs = {{0, 2}, {0, 6}, {1, 5}, {2, 6}, {7, 8}};
+    for (int i = 0; i < 5; i++) {
       due.is("low " + i, x.twice(1, i), pairs[i][0]);
       due.is("high " + i, x.twice(2, i), pairs[i][1]);
     }
-    due.is("i 4", x.twice(1, 4), -1);
+    due.is("i 5", x.twice(1, 5), -1);
     due.is("i -1", x.twice(2, -1), -1);
     due.is("what 3", x.twice(3, 0), -1);
     due.is("what -1", x.twice(-1, 0), -1);
@@ -1435,6 +1520,9 @@ public final class PromisesTest {
     x.house(0, 5000, 1, 99);
     x.house(1, 5000, 1, 100);
     due.is("cost 99", x.next(), 0);
+    x = new RedMarks();
+    x.house(7, 1, 1, 1);
+    due.is("looked at one for one", x.next(), 7);
   }
 
   private static void leftOnes() {
@@ -1535,11 +1623,24 @@ public final class PromisesTest {
     due.is("bay 9", x.together(9, 0), -1);
     due.is("shelf 6", x.together(0, 6), -1);
     due.is("empty", x.together(3, 0), 0);
+    Due.text(x, "bay 2;shelf 3;place number+letter*20");
+    x.keep(1, 1, 0);
+    x.scatter(5, 0);
+    due.is("all on shelf 3", x.together(2, 3), 30 - alone(drawn(5, 0, 30)));
+    due.is("none on another", x.together(1, 3), 0);
     due.is("a book more", x.book(0, 50, 0, 1, 1), 30);
     due.is("went", x.went(30), -1);
     x = new RedMarks();
     x.scatter(1, 1);
     due.is("none kept", x.together(0, 0), -1);
+  }
+
+  private static int alone(int[] houses) {
+    int alone = 0;
+    for (int house : houses) {
+      alone += java.util.Arrays.stream(houses).filter(h -> h == house).count() == 1 ? 1 : 0;
+    }
+    return alone;
   }
 
   private static int[] drawn(long s, int burn, int books) {
@@ -1575,7 +1676,9 @@ public final class PromisesTest {
     x.binder(0, 60, 70);
     x.stack(1);
     x.house(0, 20, 10, 3);
+    x.house(1, 20, 10, 1);
     x.keep(0, 0, 0);
+    due.is("row", x.beside(0), 1);
     due.is("image 0", x.image(0), 0);
     Due.text(x, "bay 3;place 1");
     x.book(1, 7, 50, 4, 30);
@@ -1589,8 +1692,16 @@ public final class PromisesTest {
     x.binder(0, 0, 1);
     x.stack(0);
     x.house(0, 30, 15, 1);
+    x.house(1, 30, 15, 100);
     x.keep(1, 1, 7);
+    x.list(1, 3);
+    due.is("row", x.beside(0), 0);
+    x.clear();
+    x.stack(0);
+    due.is("row of another", x.beside(0), 0);
     due.is("back 0", x.back(0), 0);
+    due.is("row then", x.beside(0), 1);
+    due.is("no more in it", x.beside(1), -1);
     due.is("books", x.count(0), 2);
     due.is("marks", x.count(1), 2);
     due.is("texts", x.count(2), 1);
@@ -1606,11 +1717,23 @@ public final class PromisesTest {
     due.is("free", x.free(1, 0), 69);
     due.is("gap", x.gap(1, 0, 0, 1), 3);
     due.is("bound", x.bound(0), -1);
+    x.fact(0, 2, 65);
+    x.fact(1, 2, 71);
+    due.is("bound within", x.bound(0), 0);
+    due.is("bound behind", x.bound(1), 1);
+    x.fact(0, 2, 50);
+    x.fact(1, 2, 50);
     due.is("expect", x.expect(0), 200);
+    x.fact(0, 11, 1);
+    due.is("next by costs", x.next(), 1);
+    x.fact(0, 11, 0);
+    due.is("agree", x.agree(0, 0), 9);
+    due.is("a line more", x.line(5, 5, 5, -1, -1), 1);
+    due.is("its list", x.list(1, 1), 0);
     due.is("high", x.fact(0, 4, 34), 30);
     due.is("not right", x.how(0), 2);
-    due.is("lines in the first", x.match(2), 1);
     due.is("back 0 again", x.back(0), 0);
+    due.is("lines in the first", x.match(2), 1);
     due.is("tall", x.of(0, 4), 30);
     due.is("no text 1", x.stand(1, 1, 0), -1);
     due.is("another text", Due.text(x, "bay 5;place 2"), 1);
@@ -1620,6 +1743,12 @@ public final class PromisesTest {
     due.is("back 1", x.back(1), 0);
     due.is("nothing", x.count(0), 0);
     due.is("none kept", x.how(0), -1);
+    due.is("none kept, on", x.on(1, 0, 0), -1);
+    due.is("none kept, free", x.free(1, 0), NOTHING);
+    due.is("none kept, gap", x.gap(1, 0, -1, 0), -1);
+    due.is("none kept, could", x.could(1, 0, 400, -1), -1);
+    due.is("none kept, close", x.close(1, 0), -1);
+    due.is("none stands", x.count(5), 0);
     due.is("no texts", x.best(0), -1);
     due.is("no room there", x.bay(1, 0), 0);
     due.is("back 0", x.back(0), 0);
@@ -1687,11 +1816,80 @@ public final class PromisesTest {
     due.is("sum", x.match(0), 13);
     x.back(1);
     due.is("no sum", x.match(0), 0);
+    x.line(7, 7, 30, -1, -1);
+    x.line(7, 7, 30, -1, -1);
+    x.image(0);
+    x.back(1);
+    x.line(0, 0, 1, 0, 1);
+    due.is("another line", x.match(0), 17);
+    x.back(0);
+    due.is("lines", x.count(3), 2);
+    due.is("lines as they were", x.match(0), 0);
     x.image(0);
     x.book(0, 1, 0, 1, 1);
     x.image(0);
     x.back(0);
     due.is("an image anew", x.count(0), 2);
+  }
+
+  /** Every way to be refused: what is answered is also told and counted. */
+  private static void refusals() {
+    due.part("51 count, 52 status of each refusal");
+    RedMarks x = new RedMarks();
+    refused(x, x.fact(0, 1, 0), -1);
+    refused(x, x.fact(0, 2, 0), -2);
+    refused(x, x.mark(0, 9, 0), -1);
+    refused(x, x.mark(0, 1, 1), -2);
+    refused(x, x.bay(9, 0), -1);
+    refused(x, x.shelf(9, 0, 1, 1), -1);
+    refused(x, x.row(), -6);
+    refused(x, x.text(), -6);
+    refused(x, x.keep(0, 0, 201), -1);
+    refused(x, x.keep(0, 0, 0), -2);
+    refused(x, x.line(1000, 0, 1, 1, 1), -1);
+    refused(x, x.list(0, 4), -1);
+    refused(x, x.list(0, 0), -2);
+    refused(x, x.binder(10, 0, 0), -1);
+    refused(x, x.stack(0), -2);
+    refused(x, x.house(12, 0, 0, 1), -1);
+    refused(x, x.scatter(0, 101), -1);
+    refused(x, x.image(2), -1);
+    refused(x, x.back(2), -1);
+    refused(x, x.back(0), -2);
+    refused(x, x.book(0, 1, 0, 0, 0), -1);
+    for (int n = 0; n < 40; n++) {
+      x.book(0, 1, 0, 1, 1);
+      x.line(0, 0, 1, 1, 1);
+      x.stack(n);
+      Due.text(x, "false");
+    }
+    refused(x, x.book(0, 1, 0, 1, 1), -5);
+    refused(x, x.line(0, 0, 1, 1, 1), -5);
+    refused(x, x.stack(39), -5);
+    refused(x, x.stack(0), -3);
+    refused(x, x.text(), -5);
+  }
+
+  private static int counted(RedMarks x, int why) {
+    int[] whats = {-1, 7, 8, 9, -1, 10, 11};
+    return x.count(whats[-why]);
+  }
+
+  private static int latelyRefused = 0;
+
+  private static void refused(RedMarks x, int answer, int why) {
+    due.is("answer", answer, why);
+    due.is("status", x.status(), why);
+    int all = 0;
+    for (int each : new int[] {-1, -2, -3, -5, -6}) {
+      all += counted(x, each);
+    }
+    int before = counted(x, why);
+    x.image(1);
+    due.is("fine then", x.status(), 0);
+    due.is("counted still", counted(x, why), before);
+    due.holds("counted " + all + " with this one", all > latelyRefused);
+    latelyRefused = all;
   }
 
   private static void statuses() {
