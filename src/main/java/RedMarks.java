@@ -288,7 +288,8 @@ public final class RedMarks {
         if (line != NONE && !now.hasLine(line) || !histories.settleKept()) {
             return NONE;
         }
-        return matches.countSets(shelves.freeOf(bay * SHELVES + shelf), slack, line);
+        matches.weighAll();
+        return matches.countMissingSets(shelves.freeOf(bay * SHELVES + shelf), slack, line);
     }
 
     public int line(int word, int subject, int thick, int letter, int number) {
@@ -1095,31 +1096,24 @@ public final class RedMarks {
                 behind++;
             }
             from = behind;
+            value = 0;
             if (from >= tape.length) {
                 kind = END;
-                return;
-            }
-            int sign = tape.bytes[from];
-            if (isLetter(sign)) {
+            } else if (isLetter(tape.bytes[from])) {
                 kind = LETTERS_ROW;
                 while (behind < tape.length && isLetter(tape.bytes[behind])) {
                     behind++;
                 }
-            } else if (isDigit(sign)) {
+            } else if (isDigit(tape.bytes[from])) {
                 kind = DIGITS_ROW;
-                readDigits();
+                while (behind < tape.length && isDigit(tape.bytes[behind])) {
+                    // held just above the most, as a row of digits can be longer than an int
+                    value = Math.min(value * 10 + tape.bytes[behind] - '0', MOST_NUMBER + 1);
+                    behind++;
+                }
             } else {
                 kind = SIGN;
-                value = sign;
-                behind++;
-            }
-        }
-
-        private void readDigits() {
-            value = 0;
-            while (behind < tape.length && isDigit(tape.bytes[behind])) {
-                // held just above the most, as a row of digits can be longer than an int
-                value = Math.min(value * 10 + tape.bytes[behind] - '0', MOST_NUMBER + 1);
+                value = tape.bytes[from];
                 behind++;
             }
         }
@@ -1281,11 +1275,38 @@ public final class RedMarks {
                 turned = !turned;
                 advance();
             }
-            boolean read = isSign('(') ? readBracketed(brackets) : readComparison(brackets);
-            if (read && turned) {
+            if (isSign('(')) {
+                if (!readBracketed(brackets)) {
+                    return false;
+                }
+            } else {
+                if (!readSum(brackets)) {
+                    return false;
+                }
+                int comparison = comparisonHere();
+                if (comparison == NONE) {
+                    return false;
+                }
+                advance();
+                if (!readSum(brackets)) {
+                    return false;
+                }
+                emit(comparison, 0);
+            }
+            if (turned) {
                 emit(Scheme.NOT, 0);
             }
-            return read;
+            return true;
+        }
+
+        private int comparisonHere() {
+            if (isSign('<')) {
+                return Scheme.BELOW;
+            }
+            if (isSign('>')) {
+                return Scheme.ABOVE;
+            }
+            return isSign('=') ? Scheme.SAME : NONE;
         }
 
         private boolean readBracketed(int brackets) {
@@ -1297,28 +1318,6 @@ public final class RedMarks {
                 return false;
             }
             advance();
-            return true;
-        }
-
-        private boolean readComparison(int brackets) {
-            if (!readSum(brackets)) {
-                return false;
-            }
-            int instruction;
-            if (isSign('<')) {
-                instruction = Scheme.BELOW;
-            } else if (isSign('>')) {
-                instruction = Scheme.ABOVE;
-            } else if (isSign('=')) {
-                instruction = Scheme.SAME;
-            } else {
-                return false;
-            }
-            advance();
-            if (!readSum(brackets)) {
-                return false;
-            }
-            emit(instruction, 0);
             return true;
         }
 
@@ -1839,6 +1838,8 @@ public final class RedMarks {
         private static final int MOST_TOGETHER = 30 * LINES;
 
         private final Holdings now;
+        /** Of the BOOK at hand: LINES that it could have, and by how much they AGREE. */
+        private final int[] bits = new int[LINES];
         private final int[] weights = new int[LINES];
         /** For each BOOK the LINES that one of the BOOKS ahead of it could take. */
         private final int[] ahead = new int[BOOKS + 1];
@@ -1894,61 +1895,65 @@ public final class RedMarks {
             }
         }
 
-        private void weigh(int book) {
-            for (int line = 0; line < now.lineCount; line++) {
-                weights[line] = now.agreement(line, book);
-            }
-        }
-
         private void lookAhead() {
             ahead[0] = 0;
             for (int book = 0; book < now.bookCount; book++) {
-                int usable = 0;
-                for (int line = 0; line < now.lineCount; line++) {
-                    if (now.agreement(line, book) >= 0) {
-                        usable |= 1 << line;
-                    }
+                ahead[book + 1] = ahead[book];
+                int usable = findUsable(book);
+                for (int i = 0; i < usable; i++) {
+                    ahead[book + 1] |= bits[i];
                 }
-                ahead[book + 1] = ahead[book] | usable;
             }
         }
 
-        private boolean canBeTaken(int set, int book) {
-            return (set & ~ahead[book]) == 0 && Integer.bitCount(set) <= book;
+        /** LINES that agree by less than 0 are in no BEST MATCH; the others as bits: how many they are. */
+        private int findUsable(int book) {
+            int usable = 0;
+            for (int line = 0; line < now.lineCount; line++) {
+                int weight = now.agreement(line, book);
+                if (weight >= 0) {
+                    bits[usable] = 1 << line;
+                    weights[usable] = weight;
+                    usable++;
+                }
+            }
+            return usable;
         }
 
         private void weighBook(int book) {
-            weigh(book);
+            int usable = findUsable(book);
             int sets = 1 << now.lineCount;
+            int never = ~ahead[book];
+            int row = book << now.lineCount;
             // sets with more LINES have greater numbers: they are still as the BOOK behind left them
             for (int set = 0; set < sets; set++) {
-                if (canBeTaken(set, book)) {
-                    weighSet(book, set);
+                if ((set & never) == 0 && Integer.bitCount(set) <= book) {
+                    choices[row + set] = (short) weighSet(set, usable);
                 }
             }
         }
 
-        private void weighSet(int book, int set) {
+        private int weighSet(int set, int usable) {
             int most = sums[set];
             int found = ways[set];
             int best = NO_LINE;
-            for (int line = 0; line < now.lineCount; line++) {
-                int with = set | 1 << line;
-                if (weights[line] >= 0 && with != set) {
-                    int sum = weights[line] + sums[with];
+            for (int i = 0; i < usable; i++) {
+                int bit = bits[i];
+                if ((set & bit) == 0) {
+                    int sum = weights[i] + sums[set | bit];
                     if (sum > most) {
                         most = sum;
-                        found = ways[with];
-                        best = 1 << line;
+                        found = ways[set | bit];
+                        best = bit;
                     } else if (sum == most) {
-                        found = Math.min(found + ways[with], MOST_WAYS);
-                        best |= 1 << line;
+                        found = Math.min(found + ways[set | bit], MOST_WAYS);
+                        best |= bit;
                     }
                 }
             }
             sums[set] = most;
             ways[set] = found;
-            choices[(book << now.lineCount) + set] = (short) best;
+            return best;
         }
 
         private void takeFirst() {
@@ -1997,8 +2002,8 @@ public final class RedMarks {
             return taken;
         }
 
-        int countSets(int free, int slack, int line) {
-            weighAll();
+        /** Sets of MISSING LINES (all with one LINE, if it isn't NONE) that fill so much; weighed ahead. */
+        int countMissingSets(int free, int slack, int line) {
             if (line != NONE && (given & 1 << line) != 0) {
                 return 0;
             }
