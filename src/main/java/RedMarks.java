@@ -307,7 +307,6 @@ public final class RedMarks {
         now.lines[line * FACTS + THICK] = thick;
         now.lines[line * FACTS + LETTER] = letter;
         now.lines[line * FACTS + NUMBER] = number;
-        now.lists[line] = 0;
         matches.forgetAll();
         return accept(line);
     }
@@ -696,10 +695,6 @@ public final class RedMarks {
     private int addBook(int letter, int number, int came, int thick, int tall) {
         int book = now.bookCount;
         now.bookCount++;
-        // BACK leaves the facts of books that are gone behind in this row
-        for (int fact = 0; fact < FACTS; fact++) {
-            now.setFact(book, fact, 0);
-        }
         now.setFact(book, LETTER, letter);
         now.setFact(book, NUMBER, number);
         now.setFact(book, CAME, came);
@@ -773,7 +768,10 @@ public final class RedMarks {
         return one < other ? other - one : one - other;
     }
 
-    /** All that an IMAGE keeps, so that keeping one and going BACK is one copy. */
+    /**
+     * All that an IMAGE keeps, so that keeping one and going BACK is one copy. Rows are copied whole: those of
+     * BOOKS and LINES that there are not yet stay 0, as a new one needs them.
+     */
     private static final class Holdings {
         final int[] facts = new int[BOOKS * FACTS];
         final int[] sides = new int[BAYS];

@@ -678,8 +678,7 @@ public final class PromisesTest {
     bestsByAll();
   }
 
-  /** BEST against all histories in order. */
-  private static void bestsByAll() {
+  private static RedMarks threeSchemes() {
     RedMarks x = new RedMarks();
     Due.text(x, "bay letter;place number;shelf star");
     Due.text(x, "bay letter;place thick");
@@ -690,19 +689,24 @@ public final class PromisesTest {
       x.fact(n, 8, n % 4);
     }
     x.shelf(1, 0, 100, 18);
+    return x;
+  }
+
+  /** BEST against all histories in order; an object has but 512 calls, so each pair has a new one. */
+  private static void bestsByAll() {
     int[] want = {-1, 0, 0, 0, 0};
-    for (int first = 0; first < 3; first++) {
-      for (int second = 0; second < 3; second++) {
-        for (int year = 0; year <= 200; year++) {
-          int standing = x.stand(first, second, year);
-          if (standing > want[0]) {
-            want = new int[] {standing, first, second, year, 1};
-          } else if (standing == want[0]) {
-            want[4]++;
-          }
+    for (int pair = 0; pair < 9; pair++) {
+      RedMarks x = threeSchemes();
+      for (int year = 0; year <= 200; year++) {
+        int standing = x.stand(pair / 3, pair % 3, year);
+        if (standing > want[0]) {
+          want = new int[] {standing, pair / 3, pair % 3, year, 1};
+        } else if (standing == want[0]) {
+          want[4]++;
         }
       }
     }
+    RedMarks x = threeSchemes();
     for (int what = 0; what <= 4; what++) {
       due.is("by all(" + what + ")", x.best(what), want[what]);
     }
@@ -952,6 +956,12 @@ public final class PromisesTest {
     due.is("no first", x.wanting(0, 1, 0), -1);
     x.book(8, 5, 0, 1, 1);
     due.is("of the first", x.wanting(8, 0, 0), 4);
+    x.mark(0, 8, 2);
+    x.book(8, 4, 0, 1, 1);
+    due.is("the first has one", x.wanting(8, 0, 0), 2);
+    due.is("the second of them", x.wanting(8, 1, 1), 3);
+    x.mark(0, 8, 5);
+    x.mark(1, -1, -1);
     due.is("one has it", x.wanting(8, 2, 0), 1);
     x.book(8, 3, 0, 1, 1);
     x.book(8, 5, 0, 1, 1);
@@ -959,6 +969,7 @@ public final class PromisesTest {
     x.book(7, 99, 0, 1, 1);
     x.book(6, 1, 0, 1, 1);
     x.book(-1, -1, 0, 1, 1);
+    x.book(5, 2, 0, 1, 1);
     due.is("how many", x.wanting(8, 0, 9), 3);
     int[] want = {1, 2, 4, -1};
     for (int i = 0; i < 4; i++) {
@@ -1739,7 +1750,19 @@ public final class PromisesTest {
     due.is("another text", Due.text(x, "bay 5;place 2"), 1);
     due.is("its seat", x.seat(1, 0, 0), 5);
     due.is("another book", x.book(-1, -1, 0, 1, 1), 2);
-    due.is("new facts", x.of(2, 8), 0);
+    for (int f = 5; f < 12; f++) {
+      due.is("new fact " + f, x.of(2, f), 0);
+      x.fact(2, f, 1);
+    }
+    x.line(5, 5, 5, -1, -1);
+    due.is("a new list", x.list(1, 3), 0);
+    x.back(0);
+    x.book(-1, -1, 0, 1, 1);
+    x.line(5, 5, 5, -1, -1);
+    for (int f = 5; f < 12; f++) {
+      due.is("new fact " + f + " again", x.of(2, f), 0);
+    }
+    due.is("a new list again", x.list(1, 3), 0);
     due.is("back 1", x.back(1), 0);
     due.is("nothing", x.count(0), 0);
     due.is("none kept", x.how(0), -1);
@@ -1808,6 +1831,32 @@ public final class PromisesTest {
     due.is("second", x.seat(0, 0, 0), 2);
     x.back(1);
     due.is("first again", x.seat(0, 0, 0), 1);
+    x.image(0);
+    for (int n = 1; n < 8; n++) {
+      Due.text(x, "bay damp;place " + n);
+      due.is("bay by text " + n, x.seat(n, 0, 0), 0);
+    }
+    x.keep(0, 0, 0);
+    due.is("on", x.on(1, 0, 0), 0);
+    x.back(0);
+    due.is("none kept, but a book", x.on(1, 0, 0), -1);
+    due.is("none kept, none free", x.free(1, 0), NOTHING);
+    due.is("none kept, none nearest", x.nearest(0, 0), -1);
+    x.fact(0, 8, 3);
+    for (int n = 1; n < 8; n++) {
+      Due.text(x, "bay damp+1;place " + n);
+      due.is("bay by another text " + n, x.seat(n, 0, 0), 4);
+    }
+    x.image(0);
+    x.fact(0, 8, 4);
+    for (int n = 1; n < 8; n++) {
+      due.is("bay by text " + n + ", damp 4", x.seat(n, 0, 0), 5);
+    }
+    x.back(0);
+    for (int n = 1; n < 8; n++) {
+      due.is("bay by text " + n + ", damp 3 again", x.seat(n, 0, 0), 4);
+    }
+    x.back(1);
     x.stack(0);
     due.is("row", x.beside(0), 0);
     x.back(1);

@@ -8,7 +8,8 @@ import java.util.TreeMap;
 
 /** Runs of drawn calls on RedMarks and on the Oracle: both have to answer alike. */
 public final class RandomRunsTest {
-  private static final int CALLS = 512;
+  /** An object has 512 calls; a text of 400 bytes takes 24 of them. */
+  private static final int CALLS = 512 - 24;
   private static final String[] MAKING = {"book", "book", "book", "book", "fact", "fact", "fact", "fact",
       "fact", "fact", "mark", "bay", "shelf", "shelf", "TEXT", "ROW", "keep", "keep", "line", "line", "list",
       "binder", "stack", "stack", "stack", "house", "house", "scatter"};
