@@ -56,7 +56,6 @@ public final class RedMarks {
     private final Holdings now = new Holdings();
     private final Holdings[] images = new Holdings[IMAGES];
     private final Tape tape = new Tape();
-    private final Reader reader = new Reader(tape);
     private final Asker asker = new Asker();
     private final Histories histories = new Histories(now, asker);
     private final Shelves shelves = new Shelves(now, histories.kept);
@@ -181,10 +180,10 @@ public final class RedMarks {
             tape.length = 0;
             return refuse(FULL);
         }
-        Scheme scheme = reader.readScheme();
+        Scheme scheme = tape.readScheme();
         tape.length = 0;
         if (scheme == null) {
-            latestFault = reader.from;
+            latestFault = tape.from;
             return refuse(UNREADABLE);
         }
         latestFault = NONE;
@@ -983,20 +982,6 @@ public final class RedMarks {
         }
     }
 
-    private static final class Tape {
-        final int[] bytes = new int[TAPE];
-        int length;
-
-        void append(int four) {
-            for (int shift = 24; shift >= 0; shift -= 8) {
-                if (length < TAPE) {
-                    bytes[length] = (four >>> shift) & 255;
-                    length++;
-                }
-            }
-        }
-    }
-
     /** A TEXT as code for a machine with a heap of numbers; it never changes, so images share it. */
     private static final class Scheme {
         static final int HEAD_BAY = 0;
@@ -1034,8 +1019,8 @@ public final class RedMarks {
         }
     }
 
-    /** Reads the TAPE; on a FAULT each method answers false and stays at the TOKEN that can't go on. */
-    private static final class Reader {
+    /** The TAPE, and how it is read: on a FAULT each method stays at the TOKEN that can't go on. */
+    private static final class Tape {
         private static final int END = 0;
         private static final int LETTERS_ROW = 1;
         private static final int DIGITS_ROW = 2;
@@ -1045,7 +1030,10 @@ public final class RedMarks {
         private static final int MOST_BRACKETS = 8;
         private static final int MOST_NUMBER = 1000;
 
-        private final Tape tape;
+        final int[] bytes = new int[TAPE];
+        int length;
+        /** Where the TOKEN at hand begins. */
+        int from;
         private final int[] code = new int[TAPE];
         private final int[] heads = new int[Scheme.CLAUSES];
         private final int[] bounds = new int[2 * Scheme.CLAUSES + 1];
@@ -1055,10 +1043,14 @@ public final class RedMarks {
         private int kind;
         private int value;
         private int behind;
-        int from;
 
-        Reader(Tape tape) {
-            this.tape = tape;
+        void append(int four) {
+            for (int shift = 24; shift >= 0; shift -= 8) {
+                if (length < TAPE) {
+                    bytes[length] = (four >>> shift) & 255;
+                    length++;
+                }
+            }
         }
 
         /** Null on a FAULT: it is at from then. */
@@ -1090,28 +1082,28 @@ public final class RedMarks {
         }
 
         private void advance() {
-            while (behind < tape.length && tape.bytes[behind] == ' ') {
+            while (behind < length && bytes[behind] == ' ') {
                 behind++;
             }
             from = behind;
             value = 0;
-            if (from >= tape.length) {
+            if (from >= length) {
                 kind = END;
-            } else if (isLetter(tape.bytes[from])) {
+            } else if (isLetter(bytes[from])) {
                 kind = LETTERS_ROW;
-                while (behind < tape.length && isLetter(tape.bytes[behind])) {
+                while (behind < length && isLetter(bytes[behind])) {
                     behind++;
                 }
-            } else if (isDigit(tape.bytes[from])) {
+            } else if (isDigit(bytes[from])) {
                 kind = DIGITS_ROW;
-                while (behind < tape.length && isDigit(tape.bytes[behind])) {
+                while (behind < length && isDigit(bytes[behind])) {
                     // held just above the most, as a row of digits can be longer than an int
-                    value = Math.min(value * 10 + tape.bytes[behind] - '0', MOST_NUMBER + 1);
+                    value = Math.min(value * 10 + bytes[behind] - '0', MOST_NUMBER + 1);
                     behind++;
                 }
             } else {
                 kind = SIGN;
-                value = tape.bytes[from];
+                value = bytes[from];
                 behind++;
             }
         }
@@ -1133,7 +1125,7 @@ public final class RedMarks {
                 return false;
             }
             for (int i = 0; i < word.length(); i++) {
-                if (tape.bytes[from + i] != word.charAt(i)) {
+                if (bytes[from + i] != word.charAt(i)) {
                     return false;
                 }
             }
@@ -1827,20 +1819,124 @@ public final class RedMarks {
     }
 
     /**
+     * Worths of LINES and BOOKS, never below 0 nor, of a pair, below what it AGREES by, and in all as low as
+     * can be (found LINE by LINE along the cheapest way to another place). Then a MATCH is BEST exactly if its
+     * pairs AGREE by both worths and none that is worth more than 0 is without.
+     */
+    private static final class Worths {
+        private static final int NEVER = -1000;
+        private static final int FAR = 1000000;
+        /** Behind the BOOKS stand places for LINES without one; one more than LINES, so one stays free. */
+        private static final int PLACES_FOR_LINES = BOOKS + LINES + 1;
+
+        private final int[] ofLine = new int[LINES + 1];
+        private final int[] ofPlace = new int[PLACES_FOR_LINES + 1];
+        private final int[] taker = new int[PLACES_FOR_LINES + 1];
+        private final int[] before = new int[PLACES_FOR_LINES + 1];
+        private final int[] over = new int[PLACES_FOR_LINES + 1];
+        private final boolean[] seen = new boolean[PLACES_FOR_LINES + 1];
+        private final int[] agreements = new int[(LINES + 1) * (PLACES_FOR_LINES + 1)];
+        private int places;
+
+        int agreementOf(int line, int book) {
+            return agreements[(line + 1) * (PLACES_FOR_LINES + 1) + book + 1];
+        }
+
+        boolean isWorth(int line) {
+            return ofLine[line + 1] > 0;
+        }
+
+        boolean canBeBest(int line, int book) {
+            return agreementOf(line, book) == ofLine[line + 1] + ofPlace[book + 1];
+        }
+
+        void weighWorths(Holdings now) {
+            places = now.bookCount + now.lineCount + 1;
+            Arrays.fill(ofLine, 0);
+            Arrays.fill(ofPlace, 0);
+            Arrays.fill(taker, 0);
+            for (int line = 1; line <= now.lineCount; line++) {
+                int row = line * (PLACES_FOR_LINES + 1);
+                for (int place = 1; place <= places; place++) {
+                    int by = place <= now.bookCount ? now.agreement(line - 1, place - 1) : 0;
+                    agreements[row + place] = by < 0 ? NEVER : by;
+                }
+            }
+            for (int line = 1; line <= now.lineCount; line++) {
+                placeLine(line);
+            }
+        }
+
+        private void placeLine(int line) {
+            for (int place = 0; place <= places; place++) {
+                over[place] = FAR;
+                seen[place] = false;
+            }
+            int at = 0;
+            taker[0] = line;
+            for (int n = 0; n <= places && taker[at] != 0; n++) {
+                at = goOn(at);
+            }
+            for (int n = 0; n <= places && at != 0; n++) {
+                taker[at] = taker[before[at]];
+                at = before[at];
+            }
+        }
+
+        /** Lets worths change until a pair with one that was seen AGREES by them: its place. */
+        private int goOn(int at) {
+            seen[at] = true;
+            int line = taker[at];
+            int row = line * (PLACES_FOR_LINES + 1);
+            int nearest = 0;
+            int least = FAR;
+            for (int place = 1; place <= places; place++) {
+                if (!seen[place]) {
+                    int above = ofLine[line] + ofPlace[place] - agreements[row + place];
+                    if (above < over[place]) {
+                        over[place] = above;
+                        before[place] = at;
+                    }
+                    if (over[place] < least) {
+                        least = over[place];
+                        nearest = place;
+                    }
+                }
+            }
+            for (int place = 0; place <= places; place++) {
+                if (seen[place]) {
+                    ofLine[taker[place]] -= least;
+                    ofPlace[place] += least;
+                } else {
+                    over[place] -= least;
+                }
+            }
+            return nearest;
+        }
+    }
+
+    /**
      * BEST MATCHES, BOOK by BOOK from the last to the first, by sets of LINES (as bits) that BOOKS ahead
-     * have taken; then forward along what is BEST for the FIRST and for what is sure.
+     * have taken; then forward along what is BEST for the FIRST and for what is sure. Worths tell which pairs
+     * can be in a BEST one at all, so that few sets are left to look at.
      */
     private static final class Matches {
         private static final int MOST_WAYS = 1000000000;
         private static final int NO_LINE = 1 << LINES;
         private static final int MOST_TOGETHER = 30 * LINES;
+        /** Below any sum: from here on no BEST MATCH can be. */
+        private static final int DEAD = -1000000;
 
         private final Holdings now;
-        /** Of the BOOK at hand: LINES that it could have, and by how much they AGREE. */
+        private final Worths worths = new Worths();
+        /** For each BOOK the LINES that it has in some BEST MATCH, if at all. */
+        private final int[] usable = new int[BOOKS];
+        /** For each BOOK the LINES that BOOKS ahead of it may have taken, and those they must have. */
+        private final int[] mayBe = new int[BOOKS + 1];
+        private final int[] mustBe = new int[BOOKS + 1];
+        /** Of the BOOK at hand: those LINES, and by how much they AGREE. */
         private final int[] bits = new int[LINES];
         private final int[] weights = new int[LINES];
-        /** For each BOOK the LINES that one of the BOOKS ahead of it could take. */
-        private final int[] ahead = new int[BOOKS + 1];
         private final int[] byThick = new int[MOST_TOGETHER + 1];
         private int[] sums = new int[0];
         private int[] ways = new int[0];
@@ -1868,9 +1964,14 @@ public final class RedMarks {
             }
             known = true;
             makeRoom(1 << now.lineCount);
+            worths.weighWorths(now);
             lookAhead();
+            lookBehind();
+            beginBehindAll();
             for (int book = now.bookCount - 1; book >= 0; book--) {
-                weighBook(book);
+                if (usable[book] != 0) {
+                    weighBook(book);
+                }
             }
             bestSum = sums[0];
             bestWays = ways[0];
@@ -1886,65 +1987,94 @@ public final class RedMarks {
                 reached = new boolean[sets];
                 choices = new short[sets * BOOKS];
             }
-            for (int set = 0; set < sets; set++) {
-                sums[set] = 0;
-                ways[set] = 1;
-                reached[set] = false;
-            }
         }
 
         private void lookAhead() {
-            ahead[0] = 0;
+            mayBe[0] = 0;
             for (int book = 0; book < now.bookCount; book++) {
-                ahead[book + 1] = ahead[book];
-                int usable = findUsable(book);
-                for (int i = 0; i < usable; i++) {
-                    ahead[book + 1] |= bits[i];
+                usable[book] = 0;
+                for (int line = 0; line < now.lineCount; line++) {
+                    if (worths.canBeBest(line, book)) {
+                        usable[book] |= 1 << line;
+                    }
                 }
+                mayBe[book + 1] = mayBe[book] | usable[book];
             }
         }
 
-        /** LINES that agree by less than 0 are in no BEST MATCH; the others as bits: how many they are. */
-        private int findUsable(int book) {
-            int usable = 0;
+        private void lookBehind() {
+            int must = 0;
             for (int line = 0; line < now.lineCount; line++) {
-                int weight = now.agreement(line, book);
-                if (weight >= 0) {
-                    bits[usable] = 1 << line;
-                    weights[usable] = weight;
-                    usable++;
+                if (worths.isWorth(line)) {
+                    must |= 1 << line;
                 }
             }
-            return usable;
+            mustBe[now.bookCount] = must;
+            for (int book = now.bookCount - 1; book >= 0; book--) {
+                mustBe[book] = mustBe[book + 1] & ~usable[book];
+            }
+        }
+
+        /** The LINES of which sets ahead of a BOOK may have one or not. */
+        private int openAt(int book) {
+            return mayBe[book] & ~mustBe[book];
+        }
+
+        private void beginBehindAll() {
+            int must = mustBe[now.bookCount];
+            int open = openAt(now.bookCount);
+            int part = 0;
+            for (int n = 1 << Integer.bitCount(open); n > 0; n--) {
+                sums[must | part] = 0;
+                ways[must | part] = 1;
+                reached[must | part] = false;
+                part = (part - open) & open;
+            }
         }
 
         private void weighBook(int book) {
-            int usable = findUsable(book);
-            int sets = 1 << now.lineCount;
-            int never = ~ahead[book];
+            int size = listUsable(book);
+            int must = mustBe[book];
+            int open = openAt(book);
             int row = book << now.lineCount;
-            // sets with more LINES have greater numbers: they are still as the BOOK behind left them
-            for (int set = 0; set < sets; set++) {
-                if ((set & never) == 0 && Integer.bitCount(set) <= book) {
-                    choices[row + set] = (short) weighSet(set, usable);
-                }
+            int part = 0;
+            // upwards: sets with more LINES are still as the BOOK behind left them
+            for (int n = 1 << Integer.bitCount(open); n > 0; n--) {
+                int set = must | part;
+                choices[row + set] = (short) weighSet(set, size, mustBe[book + 1]);
+                reached[set] = false;
+                part = (part - open) & open;
             }
         }
 
-        private int weighSet(int set, int usable) {
-            int most = sums[set];
-            int found = ways[set];
-            int best = NO_LINE;
-            for (int i = 0; i < usable; i++) {
+        private int listUsable(int book) {
+            int size = 0;
+            for (int line = 0; line < now.lineCount; line++) {
+                if ((usable[book] & 1 << line) != 0) {
+                    bits[size] = 1 << line;
+                    weights[size] = worths.agreementOf(line, book);
+                    size++;
+                }
+            }
+            return size;
+        }
+
+        private int weighSet(int set, int size, int must) {
+            boolean passes = (set & must) == must;
+            int most = passes ? sums[set] : DEAD;
+            int found = passes ? ways[set] : 0;
+            int best = passes ? NO_LINE : 0;
+            for (int i = 0; i < size; i++) {
                 int bit = bits[i];
-                if ((set & bit) == 0) {
-                    int sum = weights[i] + sums[set | bit];
+                int with = set | bit;
+                if (with != set && (with & must) == must) {
+                    int sum = weights[i] + sums[with];
                     if (sum > most) {
                         most = sum;
-                        found = ways[set | bit];
+                        found = ways[with];
                         best = bit;
                     } else if (sum == most) {
-                        found = Math.min(found + ways[set | bit], MOST_WAYS);
+                        found = Math.min(found + ways[with], MOST_WAYS);
                         best |= bit;
                     }
                 }
@@ -1954,10 +2084,14 @@ public final class RedMarks {
             return best;
         }
 
+        private int bestFor(int book, int set) {
+            return usable[book] == 0 ? NO_LINE : choices[(book << now.lineCount) + set];
+        }
+
         private void takeFirst() {
             given = 0;
             for (int book = 0; book < now.bookCount; book++) {
-                lineOf[book] = lowestLine(choices[(book << now.lineCount) + given]);
+                lineOf[book] = lowestLine(bestFor(book, given));
                 if (lineOf[book] != NONE) {
                     given |= 1 << lineOf[book];
                 }
@@ -1976,18 +2110,21 @@ public final class RedMarks {
         private void findSure() {
             reached[0] = true;
             for (int book = 0; book < now.bookCount; book++) {
-                int taken = goOver(book);
-                sure[book] = Integer.bitCount(taken) == 1;
+                sure[book] = usable[book] == 0 || Integer.bitCount(goOver(book)) == 1;
             }
         }
 
         /** From the sets that BEST MATCHES reach ahead of a BOOK to those behind it: all that it takes. */
         private int goOver(int book) {
+            int must = mustBe[book];
+            int open = openAt(book);
+            int part = open;
             int taken = 0;
             // downwards, as a BOOK only adds to a set: what is set anew has been looked at
-            for (int set = ahead[book]; set >= 0; set--) {
+            for (int n = 1 << Integer.bitCount(open); n > 0; n--) {
+                int set = must | part;
                 if (reached[set]) {
-                    int best = choices[(book << now.lineCount) + set];
+                    int best = bestFor(book, set);
                     taken |= best;
                     reached[set] = (best & NO_LINE) != 0;
                     for (int line = 0; line < now.lineCount; line++) {
@@ -1996,6 +2133,7 @@ public final class RedMarks {
                         }
                     }
                 }
+                part = (part - 1) & open;
             }
             return taken;
         }
