@@ -603,7 +603,7 @@ public final class RedMarks {
     }
 
     public int went(int book) {
-        return now.hasBook(book) ? world.houses[book] : NONE;
+        return world.houseOf(book);
     }
 
     public int together(int bay, int shelf) {
@@ -2281,6 +2281,11 @@ public final class RedMarks {
                 }
             }
             return burnt;
+        }
+
+        /** BACK leaves the WORLD as it is, so this asks for a BOOK that was in it, not one that there is now. */
+        int houseOf(int book) {
+            return book >= 0 && book < BOOKS ? houses[book] : NONE;
         }
 
         private int draw(int n) {

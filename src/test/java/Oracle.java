@@ -854,7 +854,7 @@ final class Oracle {
   }
 
   public int went(int book) {
-    return world == null || !isBook(book) ? NONE : world.getOrDefault(book, NONE);
+    return world == null ? NONE : world.getOrDefault(book, NONE);
   }
 
   public int together(int bay, int shelf) {

@@ -1813,8 +1813,53 @@ public final class PromisesTest {
     x.scatter(5, 0);
     due.is("second", x.went(1), 4);
     x.back(0);
-    due.is("no such book", x.went(1), -1);
+    due.is("not there now, but in the world", x.went(1), 4);
+    due.is("not in the world", x.went(2), -1);
     imagesOfTexts();
+    imagesLeaveWorld();
+  }
+
+  /** The latest world has the books that there were when it was made, whatever has been gone back to since. */
+  private static void imagesLeaveWorld() {
+    due.part("V the latest world behind a back");
+    RedMarks x = new RedMarks();
+    Due.text(x, BY_MARK);
+    x.keep(0, 0, 0);
+    x.image(0);
+    for (int n = 0; n < 40; n++) {
+      x.book(0, n + 1, 0, 1, 1);
+    }
+    x.image(1);
+    int[] houses = drawn(31, 40, 40);
+    x.scatter(31, 40);
+    x.back(0);
+    due.is("no books", x.count(0), 0);
+    for (int n = 0; n < 40; n++) {
+      due.is("went " + n, x.went(n), houses[n]);
+    }
+    due.is("went 40", x.went(40), -1);
+    due.is("went -1", x.went(-1), -1);
+    due.is("went far below", x.went(Integer.MIN_VALUE), -1);
+    due.is("went far above", x.went(Integer.MAX_VALUE), -1);
+    due.is("none on the shelf", x.together(0, 0), 0);
+    x.back(1);
+    for (int n = 0; n < 40; n++) {
+      due.is("went again " + n, x.went(n), houses[n]);
+    }
+    due.is("together again", x.together(0, 0), sharing(houses));
+    x.back(0);
+    due.is("a world without books", x.scatter(31, 40), 0);
+    x.back(1);
+    for (int n = 0; n < 40; n++) {
+      due.is("not in that world " + n, x.went(n), -1);
+    }
+    due.is("none together", x.together(0, 0), 0);
+  }
+
+  private static int sharing(int[] houses) {
+    int[] there = new int[12];
+    java.util.Arrays.stream(houses).filter(house -> house >= 0).forEach(house -> there[house]++);
+    return java.util.Arrays.stream(there).filter(n -> n >= 2).sum();
   }
 
   /** Each image has the texts that stood then, though they had the same numbers. */

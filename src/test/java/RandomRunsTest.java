@@ -140,7 +140,7 @@ public final class RandomRunsTest {
     if (kind < 4) {
       return from(maker, DEAR);
     }
-    if (kind < 7) {
+    if (kind < 9) {
       return from(maker, ODD);
     }
     boolean making = maker.random.nextInt(100) < (called < 80 ? 70 : 35);

@@ -147,8 +147,9 @@ final class RunMaker {
       case "how":
       case "bound":
       case "stack":
-      case "went":
         return new int[] {book()};
+      case "went":
+        return new int[] {random.nextBoolean() ? book() : from(0, 39)};
       case "best":
         return new int[] {from(0, 4)};
       case "match":
