@@ -1,5 +1,5 @@
 /** Counts answers that are not the ones that are due, and puts texts on tapes. */
-final class Due {
+class Due {
   private final String name;
   private int asked = 0;
   private int wrong = 0;
