@@ -50,6 +50,20 @@ class Due {
     return x.text();
   }
 
+  /** The HOUSES of a WORLD's BOOKS, -1 for a BURNT one. */
+  static int[] drawn(long s, int burn, int books) {
+    int[] houses = new int[books];
+    for (int n = 0; n < books; n++) {
+      s = (s * 1103 + 12345) % 1000003;
+      houses[n] = -1;
+      if (s % 100 >= burn) {
+        s = (s * 1103 + 12345) % 1000003;
+        houses[n] = (int) (s % 12);
+      }
+    }
+    return houses;
+  }
+
   private static int four(CharSequence text, int at) {
     int word = 0;
     for (int i = 0; i < 4; i++) {

@@ -126,6 +126,19 @@ final class ListEdges {
     }
     due.row("agree", line -> x.agree(line, 0), Edges.NOTHING, marked);
     due.row("agree without a mark", line -> x.agree(line, 1), Edges.NOTHING, unmarked);
+    RedMarks y = unmarked(30);
+    y.line(5, 5, 10, 3, 7);
+    int[][] facts = {{9, 5, 8}, {10, 5, 11}, {3, 13, 11}, {3, 12, 13}, {3, 8, 13}, {3, 7, 11}, {10, 4, 8}, {9, 6, 0}};
+    for (int[] fact : facts) {
+      y.fact(0, fact[0], fact[1]);
+      due.is("fact " + fact[0] + " is " + fact[1], y.agree(0, 0), fact[2]);
+      due.is("sum", y.match(0), fact[2]);
+    }
+    y.fact(0, 9, 5);
+    y.mark(0, 3, 7);
+    due.is("sum with the mark", y.match(0), 12);
+    y.mark(0, 3, 8);
+    due.is("sum with another mark", y.match(0), 2);
   }
 
   private void agreeAnswers() {
@@ -412,6 +425,15 @@ final class ListEdges {
     due.is("the other has it still", x.wanting(0, 0, 0), 97);
     x.mark(3, -1, -1);
     due.is("98 is the greatest then", x.wanting(0, 0, 0), 97);
+    for (int first = 1; first <= 3; first++) {
+      RedMarks y = new RedMarks();
+      y.book(0, first, 0, 1, 1);
+      y.book(0, 4, 0, 1, 1);
+      due.is("two, the first has " + first, y.wanting(0, 0, 0), 2);
+      due.is("the least", y.wanting(0, 1, 0), first == 1 ? 2 : 1);
+      due.is("the next", y.wanting(0, 1, 1), first == 3 ? 2 : 3);
+      due.is("books with the letter", y.wanting(0, 2, 0), 2);
+    }
   }
 
   private void wantingAnswers() {
@@ -671,6 +693,24 @@ final class ListEdges {
     x.fact(0, 7, 1);
     due.row("two", x::beside, -1, 0, 2);
     due.is("sum of two", x.beside(-1), 11);
+    x.stack(1);
+    due.row("three: 9, 0 and 0 with another star", x::beside, -1, 0, 1, 2);
+    due.is("sum of three", x.beside(-1), 11);
+    x.fact(1, 8, 9);
+    due.is("sum, damp 9", x.beside(-1), 11);
+    x.fact(1, 8, 8);
+    due.is("sum, damp 8", x.beside(-1), 11);
+    x.fact(1, 7, 5);
+    due.is("sum, another star", x.beside(-1), 13);
+    x.fact(2, 8, 0);
+    due.row("another row", x::beside, -1, 0, 2, 1);
+    due.is("another sum", x.beside(-1), 12);
+    x.clear();
+    due.is("cleared", x.beside(-1), -1);
+    x.stack(1);
+    x.stack(2);
+    due.row("two others", x::beside, -1, 1, 2);
+    due.is("sum of two others", x.beside(-1), 10);
     x.clear();
     due.is("empty again", x.beside(-1), -1);
   }

@@ -1608,7 +1608,7 @@ public final class PromisesTest {
     due.is("burn 101", x.scatter(0, 101), -1);
     int[][] worlds = {{0, 0}, {1000000, 50}, {5, 37}, {77777, 100}, {999999, 1}};
     for (int[] w : worlds) {
-      int[] houses = drawn(w[0], w[1], 30);
+      int[] houses = Due.drawn(w[0], w[1], 30);
       int burnt = 0;
       for (int n = 0; n < 30; n++) {
         burnt += houses[n] == -1 ? 1 : 0;
@@ -1637,7 +1637,7 @@ public final class PromisesTest {
     Due.text(x, "bay 2;shelf 3;place number+letter*20");
     x.keep(1, 1, 0);
     x.scatter(5, 0);
-    due.is("all on shelf 3", x.together(2, 3), 30 - alone(drawn(5, 0, 30)));
+    due.is("all on shelf 3", x.together(2, 3), 30 - alone(Due.drawn(5, 0, 30)));
     due.is("none on another", x.together(1, 3), 0);
     due.is("a book more", x.book(0, 50, 0, 1, 1), 30);
     due.is("went", x.went(30), -1);
@@ -1652,19 +1652,6 @@ public final class PromisesTest {
       alone += java.util.Arrays.stream(houses).filter(h -> h == house).count() == 1 ? 1 : 0;
     }
     return alone;
-  }
-
-  private static int[] drawn(long s, int burn, int books) {
-    int[] houses = new int[books];
-    for (int n = 0; n < books; n++) {
-      s = (s * 1103 + 12345) % 1000003;
-      houses[n] = -1;
-      if (s % 100 >= burn) {
-        s = (s * 1103 + 12345) % 1000003;
-        houses[n] = (int) (s % 12);
-      }
-    }
-    return houses;
   }
 
   private static void imagesKeep() {
@@ -1830,7 +1817,7 @@ public final class PromisesTest {
       x.book(0, n + 1, 0, 1, 1);
     }
     x.image(1);
-    int[] houses = drawn(31, 40, 40);
+    int[] houses = Due.drawn(31, 40, 40);
     x.scatter(31, 40);
     x.back(0);
     due.is("no books", x.count(0), 0);

@@ -308,30 +308,26 @@ final class RefusedEdges {
     refused("text: another, with its fault at the end", -6, false, x -> x.end(0), x -> Due.text(x, "bay 3+"));
   }
 
-  private void order(String told, int got, int want) {
-    due.is(told, got, want);
-  }
-
   private void inOrder() {
     due.sentence("I", "REFUSED by: ");
     due.sentence("I", "The first of these in that order.");
     RedMarks full = library(true);
     RedMarks x = library(false);
-    order("book: -1 ahead of -5", full.book(9, 1, 0, 1, 1), -1);
-    order("book: half a mark ahead of -5", full.book(0, -1, 0, 1, 1), -1);
-    order("fact: -1 of the fact ahead of -2", x.fact(8, 1, 1), -1);
-    order("fact: -1 of the value ahead of -2", x.fact(8, 5, 3), -1);
-    order("mark: -1 ahead of -2", x.mark(8, 9, 1), -1);
-    order("mark: half ahead of -2", x.mark(-1, 0, -1), -1);
-    order("keep: -1 ahead of -2, first", x.keep(2, 0, 201), -1);
-    order("keep: -1 ahead of -2, second", x.keep(0, 2, -1), -1);
-    order("line: -1 ahead of -5", full.line(1000, 0, 1, 0, 1), -1);
-    order("list: -1 ahead of -2", x.list(4, 4), -1);
-    order("stack: -2 ahead of -5", full.stack(40), -2);
-    order("stack: -3 ahead of -5", full.stack(0), -3);
-    order("back: -1, which image could not be kept", x.back(2), -1);
-    order("text: -5 ahead of -6", Due.text(full, "bay"), -5);
-    order("text: -5 ahead of -6 of nothing", full.text(), -5);
+    due.is("book: -1 ahead of -5", full.book(9, 1, 0, 1, 1), -1);
+    due.is("book: half a mark ahead of -5", full.book(0, -1, 0, 1, 1), -1);
+    due.is("fact: -1 of the fact ahead of -2", x.fact(8, 1, 1), -1);
+    due.is("fact: -1 of the value ahead of -2", x.fact(8, 5, 3), -1);
+    due.is("mark: -1 ahead of -2", x.mark(8, 9, 1), -1);
+    due.is("mark: half ahead of -2", x.mark(-1, 0, -1), -1);
+    due.is("keep: -1 ahead of -2, first", x.keep(2, 0, 201), -1);
+    due.is("keep: -1 ahead of -2, second", x.keep(0, 2, -1), -1);
+    due.is("line: -1 ahead of -5", full.line(1000, 0, 1, 0, 1), -1);
+    due.is("list: -1 ahead of -2", x.list(4, 4), -1);
+    due.is("stack: -2 ahead of -5", full.stack(40), -2);
+    due.is("stack: -3 ahead of -5", full.stack(0), -3);
+    due.is("back: -1, which image could not be kept", x.back(2), -1);
+    due.is("text: -5 ahead of -6", Due.text(full, "bay"), -5);
+    due.is("text: -5 ahead of -6 of nothing", full.text(), -5);
   }
 
   private void callsThatAnswerNone() {

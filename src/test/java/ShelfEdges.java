@@ -130,6 +130,14 @@ final class ShelfEdges {
         x.fact(0, 5, hole);
         due.is("side " + side + ", hole " + hole, x.seat(0, 0, 3), right[side][hole]);
         due.is("it has a seat", x.seat(0, 0, 0), 0);
+        due.is("how", x.how(0), right[side][hole] == 1 ? 4 : 2);
+        x.fact(0, 5, 0);
+        due.is("how without a hole", x.how(0), 4);
+        x.fact(0, 5, hole);
+        x.bay(0, 0);
+        due.is("how on any side", x.how(0), 4);
+        x.bay(0, side);
+        due.is("how on this side", x.how(0), right[side][hole] == 1 ? 4 : 2);
       }
     }
   }
@@ -247,9 +255,22 @@ final class ShelfEdges {
     x.fact(0, 2, 198);
     x.fact(1, 2, 199);
     best(x, 2, 1, 2, 199, 2);
+    // the later one has the lower number
+    x.fact(1, 2, 10);
+    best(x, 2, 1, 2, 11, 2 * 188);
+    x.fact(1, 2, 199);
     x.fact(0, 2, 199);
     // never apart
     best(x, 1, 0, 1, 0, 4 * 201 + 2 * 200 + 2);
+    // books in no order of years: 0 and 1 have one place, 2 and 3 another
+    RedMarks y = threeSchemes(150, 10, 80, 120);
+    y.mark(1, 0, 1);
+    y.mark(3, 0, 3);
+    best(y, 4, 1, 2, 81, 2 * 40);
+    y.fact(0, 2, 100);
+    best(y, 4, 1, 2, 81, 2 * 20);
+    y.fact(2, 2, 0);
+    best(y, 4, 1, 2, 11, 2 * 90);
   }
 
   private void keptNone() {
@@ -530,6 +551,16 @@ final class ShelfEdges {
     due.row("of NONE", what -> x.gap(0, 0, -1, what), -1, 2, 7);
     due.is("what -1 of NONE", x.gap(0, 0, -1, -1), -1);
     due.range("what", 0, 1, -1, what -> x.gap(0, 0, 0, what));
+    RedMarks last = new RedMarks();
+    due.newText(last, "bay letter;shelf star;place number");
+    last.book(8, 4, 0, 1, 1);
+    last.book(8, 7, 0, 1, 1);
+    last.fact(0, 7, 5);
+    last.keep(0, 0, 0);
+    due.row("of NONE of the last shelf", what -> last.gap(8, 5, -1, what), -1, 1, 3);
+    due.row("of the last shelf", what -> last.gap(8, 5, 0, what), -1, 1, 3);
+    due.row("of NONE of the one ahead", what -> last.gap(8, 4, -1, what), -1, 0, 0);
+    due.row("of NONE of the first", what -> last.gap(8, 0, -1, what), -1, 1, 6);
     due.range("bay", 0, 8, -1, bay -> x.gap(bay, 5, -1, 0));
     due.range("shelf", 0, 5, -1, shelf -> x.gap(8, shelf, -1, 1));
   }
@@ -572,6 +603,17 @@ final class ShelfEdges {
     due.is("half of them", x.could(0, 0, 400, 11), 2048);
     due.is("the whole: 250", x.could(0, 0, 150, -1), 1);
     due.is("not so much", x.could(0, 0, 149, -1), 0);
+    RedMarks most = oneShelf();
+    for (int n = 0; n < 12; n++) {
+      most.line(900, 7, 30, -1, -1);
+    }
+    most.shelf(0, 0, 360, 40);
+    due.is("twelve of 30: the whole", most.could(0, 0, 0, -1), 1);
+    due.is("twelve of 30: all sets", most.could(0, 0, 360, -1), 4096);
+    most.shelf(0, 0, 359, 40);
+    due.is("twelve of 30: all but the whole", most.could(0, 0, 359, -1), 4095);
+    due.is("twelve of 30: less", most.could(0, 0, 28, -1), 0);
+    due.is("twelve of 30: eleven", most.could(0, 0, 29, -1), 12);
   }
 
   /** Books 0 to 2 stand on the shelves of bays 0 to 2, each with its damp and star; 3 has no mark. */

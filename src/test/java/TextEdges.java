@@ -276,6 +276,10 @@ final class TextEdges {
     fault("bay 0", -1);
     fault("bay 9", -1);
     fault("bay 4/2", -1);
+    fault("baya 1", 0);
+    fault("bayz 1", 0);
+    fault("abay 1", 0);
+    fault("zbay 1", 0);
     fault("BAY 1", 0);
     fault("bay Letter", 4);
   }
@@ -302,6 +306,16 @@ final class TextEdges {
     tells("ours 2;" + "false;".repeat(11).substring(0, 65), 2);
   }
 
+  /** Each word with one of its letters changed is another word, which can't go on there. */
+  private void misspelt(String ahead, String[] words, String behind, int place) {
+    for (String word : words) {
+      fault(ahead + word + behind, -1);
+      for (int at = 0; at < word.length(); at++) {
+        fault(ahead + word.substring(0, at) + "q" + word.substring(at + 1) + behind, place);
+      }
+    }
+  }
+
   private void heads() {
     due.sentence("II", "CLAUSE: HEAD [\"if\" TEST]. HEAD: \"bay\" SUM | \"shelf\" SUM | \"place\" SUM | \"ours\" SUM | \"false\".");
     for (String head : new String[] {"bay", "shelf", "place", "ours"}) {
@@ -323,6 +337,8 @@ final class TextEdges {
     fault("false letter", 6);
     fault("fals", 0);
     fault("falses", 0);
+    misspelt("", new String[] {"bay", "shelf", "place", "ours"}, " 1", 0);
+    misspelt("", new String[] {"false"}, "", 0);
     fault("if 1=1", 0);
     fault("1", 0);
     fault("letter", 0);
@@ -339,6 +355,7 @@ final class TextEdges {
     fault("false when 1=1", 6);
     fault("false iff 1=1", 6);
     fault("false i", 6);
+    misspelt("false ", new String[] {"if"}, " 1=1", 6);
     fault("bay 1 if", 8);
     fault("bay 1 not 1=1", 6);
     fault("bay 1 (1=1)", 6);
@@ -352,6 +369,7 @@ final class TextEdges {
     fault("false if or 2=2", 9);
     fault("false if 1=1 or 2", 17);
     fault("false if 1=1 ors 2=2", 13);
+    misspelt("false if 1=1 ", new String[] {"or"}, " 2=2", 13);
     tells("ours 5 if 1=2 or 2=3", 0);
     tells("ours 5 if 1=2 or 2=3 or 4=4", 5);
     tells("ours 5 if 1=1 or 2=3 or 4=5", 5);
@@ -368,6 +386,7 @@ final class TextEdges {
     fault("false if and 2=2", 9);
     fault("false if 1=1 and or 2=2", 17);
     fault("false if 1=1 an 2=2", 13);
+    misspelt("false if 1=1 ", new String[] {"and"}, " 2=2", 13);
     tells("ours 5 if 1=1 and 2=2", 5);
     tells("ours 5 if 1=1 and 2=2 and 3=4", 0);
     tells("ours 5 if 1=2 and 2=2 and 3=3", 0);
@@ -380,6 +399,7 @@ final class TextEdges {
     fault("false if not 1", 14);
     fault("false if not not not 1=1", -1);
     fault("false if not (1=1)", -1);
+    misspelt("false if ", new String[] {"not"}, " 1=1", 9);
     fault("false if not and 1=1", 13);
     fault("false if (1=1)", -1);
     fault("false if ()", 10);
@@ -406,6 +426,10 @@ final class TextEdges {
     tells("ours 5 if not not not 7=7", 0);
     tells("ours 5 if not 7=6 and 7=6", 0);
     tells("ours 5 if not (7=6 and 7=6)", 5);
+    tells("ours 5 if not (not 7=7)", 5);
+    tells("ours 5 if not (not 7=6)", 0);
+    tells("ours 5 if not (not (not 7=6))", 5);
+    tells("ours 5 if not 7=7 or not 7=6", 5);
     tells("ours 5 if " + "not ".repeat(96) + "1=1", 5);
     tells("ours 5 if " + "not ".repeat(95) + "1=2", 5);
   }
@@ -453,6 +477,7 @@ final class TextEdges {
       fault("ours " + words[f].substring(0, words[f].length() - 1), 5);
       fault(words[f], 0);
     }
+    misspelt("ours ", words, "", 5);
     fault("ours []", 6);
     fault("ours [1", 7);
     fault("ours [1)", 7);
@@ -503,6 +528,16 @@ final class TextEdges {
     fault("ours " + "1+".repeat(24) + "1;ours " + "1+".repeat(24) + "1", -1);
     fault("ours " + "1+".repeat(24) + "1;ours " + "1+".repeat(25) + "1", 110);
     tells("ours " + numbers + "1", 50);
+    RedMarks x = new RedMarks();
+    x.book(0, 1, 0, 1, 1);
+    for (int n = 0; n < 8; n++) {
+      due.is("one too many", Due.text(x, "ours " + numbers + "1+1"), -6);
+      due.is("fault of one too many", x.fault(), 105);
+      due.is("each text has fifty of its own", Due.text(x, "ours " + n + "+" + numbers.substring(2) + "1"), n);
+    }
+    for (int n = 0; n < 8; n++) {
+      due.is("ours of text " + n, x.ours(n, 0, -1), 49 + n);
+    }
   }
 
   private void eightBrackets() {

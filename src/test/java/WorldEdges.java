@@ -22,6 +22,7 @@ final class WorldEdges {
     imagesLeave();
     imagesKeepBooks();
     imagesKeepTheRest();
+    imagesKeepWhatIsSet();
     imagesStay();
     answers();
   }
@@ -166,25 +167,12 @@ final class WorldEdges {
     due.is("but not below 36", x.scatter(1000000, 36), 0);
   }
 
-  private static int[] drawn(long s, int burn, int books) {
-    int[] houses = new int[books];
-    for (int n = 0; n < books; n++) {
-      s = (s * 1103 + 12345) % 1000003;
-      houses[n] = -1;
-      if (s % 100 >= burn) {
-        s = (s * 1103 + 12345) % 1000003;
-        houses[n] = (int) (s % 12);
-      }
-    }
-    return houses;
-  }
-
   private void bookByBook() {
     due.sentence("V", "BOOK by BOOK: a DRAW of 100: below BURN it is BURNT; else a DRAW of 12 is its HOUSE.");
     int[][] worlds = {{0, 0}, {0, 100}, {1000000, 1}, {1000000, 99}, {123456, 50}, {999999, 33}};
     for (int[] world : worlds) {
       RedMarks x = NumberEdges.books(40);
-      int[] houses = drawn(world[0], world[1], 40);
+      int[] houses = Due.drawn(world[0], world[1], 40);
       int burnt = 0;
       for (int house : houses) {
         burnt += house == -1 ? 1 : 0;
@@ -351,6 +339,102 @@ final class WorldEdges {
     due.is("high", x.how(0), 2);
   }
 
+  private static int[] told(RedMarks x) {
+    return new int[] {x.count(0), x.count(1), x.count(2), x.count(3), x.count(4), x.count(5), x.of(0, 0), x.of(0, 1),
+        x.of(0, 2), x.of(0, 3), x.of(0, 4), x.of(0, 5), x.of(0, 11), x.how(1), x.on(0, 0, 0), x.free(0, 0), x.bound(1),
+        x.fights(0, 0), x.agree(0, 1), x.match(0), x.matched(1, 0), x.beside(-1), x.beside(0), x.expect(0), x.expect(1),
+        x.next(), x.best(0), x.best(4), x.on(1, 0, 0), x.left(1), x.seat(1, 2, 0), x.stand(0, 1, 9), x.wanting(0, 0, 0)};
+  }
+
+  /** All that can be set is set to something else, and gone back to: no answer stays as it was in between. */
+  private void imagesKeepWhatIsSet() {
+    due.sentence("V", "BACK to one all that it keeps is as it was then ");
+    RedMarks x = NumberEdges.books(3);
+    x.mark(2, 0, 4);
+    x.fact(1, 2, 8);
+    x.fact(2, 2, 9);
+    x.image(1);
+    due.newText(x, Edges.BY_MARK);
+    due.newText(x, "bay 1;place number");
+    x.line(5, 0, 30, 0, 1);
+    x.line(5, 3, 1, 0, 3);
+    x.list(0, 1);
+    x.list(1, 2);
+    x.bay(0, 2);
+    x.shelf(0, 0, 7, 7);
+    x.binder(0, 0, 60);
+    x.stack(1);
+    x.stack(2);
+    x.house(0, 10, 5, 3);
+    x.house(1, 11, 5, 1);
+    x.fact(2, 11, 1);
+    x.fact(2, 8, 5);
+    x.keep(0, 1, 9);
+    int[] ahead = told(x);
+    x.image(0);
+    x.back(1);
+    due.newText(x, "bay 2;place thick");
+    due.newText(x, "bay 3;place thick");
+    x.line(9, 1, 15, -1, -1);
+    x.image(1);
+    x.back(0);
+    changeAll(x);
+    int[] between = told(x);
+    due.is("back", x.back(0), 0);
+    int[] then = told(x);
+    for (int n = 0; n < ahead.length; n++) {
+      due.is("answer " + n, then[n], ahead[n]);
+      due.holds("answer " + n + " was another in between: " + between[n], between[n] != ahead[n]);
+    }
+    due.is("side", x.bay(0, 0), 2);
+    due.is("list", x.list(0, 0), 1);
+    due.is("list of the other", x.list(1, 0), 2);
+    x.fact(0, 2, 60);
+    due.is("bound within", x.bound(0), 0);
+    x.fact(0, 2, 61);
+    due.is("bound behind", x.bound(0), 1);
+    x.fact(0, 2, 0);
+    x.fact(0, 4, 7);
+    due.is("not too tall", x.how(0), 4);
+    x.fact(0, 4, 8);
+    due.is("too tall", x.how(0), 2);
+    x.back(1);
+    due.is("the other image's first text", x.seat(0, 0, 0), 2);
+    due.is("the other image's second text", x.seat(1, 0, 0), 3);
+    due.is("the other image's line", x.agree(0, 0), 0);
+    x.back(0);
+    due.is("the first's first text again", x.seat(0, 0, 0), 0);
+    due.is("the first's second text again", x.seat(1, 0, 0), 1);
+    due.is("the first's line again", x.agree(0, 0), 7);
+  }
+
+  private static void changeAll(RedMarks x) {
+    x.mark(0, 8, 99);
+    for (int f = 2; f < 12; f++) {
+      x.fact(0, f, f == 5 ? 1 : 7);
+    }
+    for (int number = 96; number <= 99; number++) {
+      x.book(0, number, 0, 1, 1);
+    }
+    x.mark(1, -1, -1);
+    x.mark(2, -1, -1);
+    x.bay(0, 0);
+    x.shelf(0, 0, 9, 5);
+    x.list(0, 2);
+    x.list(1, 2);
+    x.binder(0, 50, 50);
+    x.clear();
+    x.stack(2);
+    x.stack(0);
+    x.stack(1);
+    x.house(0, 20, 1, 1);
+    x.house(1, 20, 1, 100);
+    x.line(0, 0, 1, -1, -1);
+    x.line(7, 7, 7, 8, 99);
+    x.keep(1, 0, 8);
+    Due.text(x, "bay damp;place thick;shelf word if word<6");
+  }
+
   private void imagesStay() {
     due.sentence("V", "(IMAGES stay).");
     RedMarks x = NumberEdges.books(1);
@@ -502,7 +586,7 @@ final class WorldEdges {
     due.is("wrong seed", x.scatter(1000001, 100), -1);
     due.is("wrong burn", x.scatter(0, 101), -1);
     due.is("the latest is as it was", x.went(39), house);
-    due.is("it was not burnt", house, drawn(0, 0, 40)[39]);
+    due.is("it was not burnt", house, Due.drawn(0, 0, 40)[39]);
     RedMarks empty = new RedMarks();
     due.is("without books", empty.scatter(0, 100), 0);
   }
@@ -513,13 +597,13 @@ final class WorldEdges {
     due.is("no world", x.went(0), -1);
     x.scatter(0, 0);
     due.is("the first", x.went(0), 628841 % 12);
-    due.row("went", x::went, -1, drawn(0, 0, 39));
+    due.row("went", x::went, -1, Due.drawn(0, 0, 39));
     x.book(0, 1, 0, 1, 1);
     due.is("one that came behind it", x.went(39), -1);
     x.scatter(0, 100);
     due.is("burnt", x.went(0), -1);
     x.scatter(0, 0);
-    due.row("went then", x::went, -1, drawn(0, 0, 40));
+    due.row("went then", x::went, -1, Due.drawn(0, 0, 40));
     x.fact(0, 11, (x.went(0) + 1) % 12);
     due.is("the fact HOUSE has nothing to do with it", x.went(0), 628841 % 12);
   }
@@ -527,7 +611,7 @@ final class WorldEdges {
   private void togetherAnswers() {
     due.sentence("48", "How many BOOKS of a SHELF of the KEPT HISTORY are in one HOUSE at least two of them, together, "
         + "in the latest WORLD. NONE.");
-    int[] houses = drawn(0, 0, 40);
+    int[] houses = Due.drawn(0, 0, 40);
     for (int size = 1; size <= 40; size++) {
       RedMarks x = new RedMarks();
       due.newText(x, "bay 8;shelf 5;place number");
