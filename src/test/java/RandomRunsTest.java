@@ -1,11 +1,3 @@
-import java.lang.reflect.InvocationTargetException;
-import java.lang.reflect.Method;
-import java.util.ArrayList;
-import java.util.Arrays;
-import java.util.List;
-import java.util.Map;
-import java.util.TreeMap;
-
 /** Runs of drawn calls on RedMarks and on the Oracle: both have to answer alike. */
 public final class RandomRunsTest {
   /** An object has 512 calls; a text of 400 bytes takes 24 of them. */
@@ -21,13 +13,11 @@ public final class RandomRunsTest {
       "together", "count", "count", "status"};
   private static final String[] DEAR = {"best", "match", "matched", "left", "could"};
 
-  private static final Map<String, Method> real = methods(RedMarks.class);
-  private static final Map<String, Method> plain = methods(Oracle.class);
   private static final Due due = new Due("RandomRunsTest");
 
   public static void main(String[] args) throws Exception {
     due.part("faces");
-    due.holds("the oracle has the same calls", real.keySet().equals(plain.keySet()));
+    due.holds("the oracle has the same calls", Pair.haveTheSameCalls());
     int runs = Integer.getInteger("runs", 220);
     int from = Integer.getInteger("from", 0);
     for (int seed = from; seed < from + runs; seed++) {
@@ -36,64 +26,14 @@ public final class RandomRunsTest {
     due.finish();
   }
 
-  private static Map<String, Method> methods(Class<?> of) {
-    Map<String, Method> found = new TreeMap<>();
-    for (Method m : of.getDeclaredMethods()) {
-      if (java.lang.reflect.Modifier.isPublic(m.getModifiers())) {
-        m.setAccessible(true);
-        found.put(m.getName(), m);
-      }
-    }
-    return found;
-  }
-
-  /** One pair of objects and what has been called on both. */
-  private static final class Pair {
-    final RedMarks one = new RedMarks();
-    final Oracle other = new Oracle();
-    final List<String> calls = new ArrayList<>();
-    boolean alike = true;
-
-    void call(String name, int... arguments) throws IllegalAccessException {
-      Object[] boxed = Arrays.stream(arguments).boxed().toArray();
-      String told = name + Arrays.toString(arguments);
-      try {
-        int got = (Integer) real.get(name).invoke(one, boxed);
-        int want = (Integer) plain.get(name).invoke(other, boxed);
-        calls.add(told + " = " + want);
-        due.is(told, got, want);
-        alike &= got == want;
-      } catch (InvocationTargetException e) {
-        due.is(told + " threw " + e.getCause(), 1, 0);
-        e.getCause().printStackTrace(System.out);
-        alike = false;
-      }
-    }
-
-    void tape(String bytes) throws IllegalAccessException {
-      StringBuilder padded = new StringBuilder(bytes);
-      while (padded.length() % 20 != 0) {
-        padded.append(' ');
-      }
-      for (int at = 0; at < padded.length(); at += 20) {
-        int[] fours = new int[5];
-        for (int i = 0; i < 20; i++) {
-          fours[i / 4] = fours[i / 4] << 8 | padded.charAt(at + i);
-        }
-        call("feed", fours);
-      }
-      call("end", bytes.length());
-    }
-  }
-
   private static void run(int seed, boolean large) throws IllegalAccessException {
     due.part("run " + seed);
     RunMaker maker = new RunMaker(seed, large);
-    Pair pair = new Pair();
+    Pair pair = new Pair(due);
     if (seed % 10 != 0) {
       begin(maker, pair);
     }
-    while (pair.calls.size() < CALLS && pair.alike) {
+    while (pair.calls.size() < CALLS && pair.isAlike()) {
       String name = pick(maker, pair.calls.size(), large);
       if (name.equals("TEXT")) {
         pair.call("end", 0);
@@ -109,9 +49,7 @@ public final class RandomRunsTest {
         pair.call(name, maker.arguments(name));
       }
     }
-    if (!pair.alike) {
-      pair.calls.forEach(System.out::println);
-    }
+    pair.tellIfUnlike();
   }
 
   /** Most runs begin with a library of which much can be asked. */

@@ -19,16 +19,16 @@ public final class RulesTest {
 
   public static void main(String[] args) throws IOException {
     Path root = Path.of(args.length > 0 ? args[0] : ".");
-    face(root.resolve("../shared/DOC.md"));
-    members();
     String source = Files.readString(root.resolve("src/main/java/RedMarks.java"));
+    face(root.resolve("../shared/DOC.md"), source);
+    members();
     words(source.replaceAll("(?s)/\\*.*?\\*/", "").replaceAll("//[^\n]*", ""));
     lengths(source);
     room();
     due.finish();
   }
 
-  private static void face(Path doc) throws IOException {
+  private static void face(Path doc, String source) throws IOException {
     due.part("rule 1, the document's face");
     String text = Files.readString(doc);
     String block = text.substring(text.indexOf("```java"), text.indexOf("## Terms"));
@@ -44,6 +44,10 @@ public final class RulesTest {
         due.holds(method + " answers int", method.getReturnType() == int.class);
         found.add(method.getName() + method.getParameterCount());
       }
+    }
+    Matcher member = Pattern.compile("public [^;{]*(?=;| \\{)").matcher(block);
+    while (member.find()) {
+      due.holds(member.group() + " stands word for word", source.contains(member.group()));
     }
     due.is("calls", wanted.size(), 51);
     due.holds("calls are " + wanted + ", found " + found, wanted.equals(found));
